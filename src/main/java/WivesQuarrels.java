@@ -317,12 +317,11 @@ public final class WivesQuarrels {
 
     public int deaths() {
         Folk folk = books.folk();
+        // All of them would do; rising, so that of as few the least as bits is the first one found.
         int fewest = folk.living();
-        // Rising, so that of as few the least as bits is the first one found.
         for (int group = 0; group <= EVERYBODY; group++) {
-            boolean canBeBetter = Integer.bitCount(group) < Integer.bitCount(fewest)
-                || group < fewest && Integer.bitCount(group) == Integer.bitCount(fewest);
-            if (canBeBetter && (group & ~folk.living()) == 0 && bringsPeace(group)) {
+            boolean fewer = Integer.bitCount(group) < Integer.bitCount(fewest);
+            if (fewer && (group & ~folk.living()) == 0 && bringsPeace(group)) {
                 fewest = group;
             }
         }
@@ -551,7 +550,7 @@ public final class WivesQuarrels {
     }
 
     private static boolean isIn(int number, int bits) {
-        return (bits >> number & 1) != 0;
+        return number >= 0 && number < 32 && (bits >> number & 1) != 0;
     }
 
     /** PEOPLE and QUARRELS as they are at one time, in one row of numbers, so that a copy is one move. */
@@ -592,6 +591,10 @@ public final class WivesQuarrels {
             }
         }
 
+        private static boolean isPlace(int person) {
+            return person >= 0 && person < MOST_PEOPLE;
+        }
+
         int people() {
             return row[PEOPLE];
         }
@@ -610,7 +613,7 @@ public final class WivesQuarrels {
 
         void add(int nerve, int drawer, boolean lawyer) {
             int person = row[PEOPLE];
-            if (person >= MOST_PEOPLE) {
+            if (!isPlace(person)) {
                 return;
             }
             row[NERVES + person] = nerve;
@@ -623,19 +626,21 @@ public final class WivesQuarrels {
         }
 
         int nerve(int person) {
-            return row[NERVES + person];
+            return isPlace(person) ? row[NERVES + person] : 0;
         }
 
         void changeNerve(int person, int nerve) {
-            row[NERVES + person] = nerve;
+            if (isPlace(person)) {
+                row[NERVES + person] = nerve;
+            }
         }
 
         int drawer(int person) {
-            return row[DRAWERS + person];
+            return isPlace(person) ? row[DRAWERS + person] : 0;
         }
 
         int spouse(int person) {
-            return row[SPOUSES + person] - 1;
+            return isPlace(person) ? row[SPOUSES + person] - 1 : NONE;
         }
 
         boolean lives(int person) {
@@ -692,7 +697,7 @@ public final class WivesQuarrels {
 
         /** With whom one has QUARRELS, as bits. */
         int ties(int person) {
-            return row[TIES + person];
+            return isPlace(person) ? row[TIES + person] : 0;
         }
 
         int heatAround(int person) {
@@ -772,8 +777,10 @@ public final class WivesQuarrels {
 
         /** Weds two as a TEXT does: a QUARREL of both stays. */
         void join(int person, int other) {
-            row[SPOUSES + person] = other + 1;
-            row[SPOUSES + other] = person + 1;
+            if (isPlace(person) && isPlace(other)) {
+                row[SPOUSES + person] = other + 1;
+                row[SPOUSES + other] = person + 1;
+            }
         }
 
         void marry(int person, int other) {
@@ -788,10 +795,13 @@ public final class WivesQuarrels {
 
         /** One DIES, and the HEIR comes into QUARRELS and DRAWER. */
         void bury(int person) {
+            if (!isPlace(person)) {
+                return;
+            }
             int heir = spouse(person);
             row[LIVING] &= ~(1 << person);
             row[SPOUSES + person] = 0;
-            if (heir != NONE) {
+            if (isPlace(heir)) {
                 row[SPOUSES + heir] = 0;
                 row[DRAWERS + heir] |= row[DRAWERS + person];
             }

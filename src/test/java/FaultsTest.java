@@ -167,6 +167,11 @@ public final class FaultsTest {
         badExpr("1<not 1;", 3, 2);
         badExpr("(cuts);", 3, 1);
         badExpr("not and;", 3, 4);
+        badExpr("z;", 3, 0);
+        badExpr("a;", 3, 0);
+        badExpr("heatz;", 3, 0);
+        badExpr("aheat;", 3, 0);
+        badExpr("hea", 3, 0);
     }
 
     private static void taken() {

@@ -257,12 +257,17 @@ public final class ModelTest {
 
     // ---- calls
 
+    private int extreme() {
+        int[] extremes = {Integer.MIN_VALUE, Integer.MAX_VALUE, -100, 1000, 32, 256, random.nextInt()};
+        return extremes[upTo(extremes.length)];
+    }
+
     private int someone() {
-        return chance(40) ? upTo(10) - 1 : people > 0 ? upTo(people) : 0;
+        return chance(150) ? extreme() : chance(40) ? upTo(10) - 1 : people > 0 ? upTo(people) : 0;
     }
 
     private int some(int last) {
-        return chance(25) ? upTo(last + 5) - 2 : upTo(last + 1);
+        return chance(100) ? extreme() : chance(25) ? upTo(last + 5) - 2 : upTo(last + 1);
     }
 
     private String runCalls() {

@@ -134,6 +134,13 @@ public final class PromisesTest {
         is(3, "just its first bytes", townOf(x, "person 1 1;person 2 2;", 11), 0);
         is(3, "one lives again", x.count(1), 1);
         is(3, "without the old rule", x.count(3), 0);
+        is(3, "an earlier text", Check.town(x, "xxxxxxxxxxxxxxxxxxxx"), 1);
+        is(3, "cut in a word", townOf(x, "persons", 6), 1);
+        is(3, "cut in a word", x.fault(), 6);
+        is(3, "an earlier text", Check.town(x, "99999999999999999999"), 1);
+        is(3, "cut in a number", townOf(x, "person 199", 8), 1);
+        is(3, "cut in a number", x.fault(), 8);
+        is(3, "one lives still", x.count(1), 1);
         is(3, "an empty text", x.town(0), 0);
         is(3, "nobody", x.count(0), 0);
     }
@@ -211,6 +218,8 @@ public final class PromisesTest {
     private static void asked() {
         is(5, "asked of nobody", of("").count(7), 0);
         is(5, "asked without quarrels", of(FOUR).count(7), 15);
+        is(5, "asked of eight", of(EIGHT).count(7), 255);
+        is(5, "tables of eight", of(EIGHT).count(6), 1);
         is(5, "the least of like ones", of(TWO + "quarrel 0 1 1 1;").count(7), 1);
         is(5, "more go ahead of less", of(THREE + "quarrel 0 1 1 1;quarrel 0 2 1 1;").count(7), 6);
         WivesQuarrels x = of(THREE);
@@ -326,7 +335,27 @@ public final class PromisesTest {
         for (int i = 0; i < rules.length; i++) {
             is(8, "heats " + rules[i], heatBehind(rules[i], 1) - 50, due[i]);
         }
+        String deep = "heat=50";
+        for (int i = 0; i < 5; i++) {
+            deep = "0 or 1 and 4<3+2*(" + deep + ")";
+        }
+        is(8, "as deep as can be", heatBehind(deep, 1), 51);
+        is(8, "as deep as can be", heatBehind(deep, 2), 51);
+        longRules();
         is(8, "ints that wrap", heatBehind("9999*9999*23<0", 1) - 50, 9999 * 9999 * 23 < 0 ? 1 : 0);
+    }
+
+    /** Each as long as can be, so that what one leaves behind would be seen in the next. */
+    private static void longRules() {
+        WivesQuarrels x = new WivesQuarrels();
+        for (int i = 1; i <= 4; i++) {
+            StringBuilder b = new StringBuilder(TWO + "quarrel 0 1 50 0;heats " + i);
+            while (b.length() < 690) {
+                b.append("+0*1");
+            }
+            is(8, "a long rule", Check.town(x, b.append(";").toString()), 0);
+            is(8, "by a long rule", x.then(0, 1, 1, 0), 50 + i);
+        }
     }
 
     private static int wrapped() {
@@ -623,6 +652,14 @@ public final class PromisesTest {
         is(21, "one", x.drawers(), 1);
         x.die(0);
         is(21, "not of the dead", x.drawers(), NONE);
+        StringBuilder all = new StringBuilder();
+        for (int word = 0; word < 8; word++) {
+            all.append("person 1 ").append(1 << word).append(";");
+        }
+        for (int word = 0; word < 8; word++) {
+            all.append("quarrel ").append(word).append(' ').append((word + 1) % 8).append(" 5 ").append(word).append(";");
+        }
+        is(21, "all eight", of(all.toString()).drawers(), 255);
     }
 
     private static void deaths() {
@@ -822,6 +859,10 @@ public final class PromisesTest {
         is(36, "weeks count from now on", x.nerved(2), 1);
         WivesQuarrels y = of(THREE + "quarrel 0 1 10 0;");
         y.see(0, 2, 5, 0);
+        WivesQuarrels z = of(TWO + "quarrel 0 1 50 0;heats nerve-9;");
+        z.see(0, 1, 1, 45);
+        is(36, "just the nerve 0 of 0", z.nerved(0), 1);
+        is(36, "just the nerve 0 of 0", z.nerved(1), 0);
         is(36, "where is no quarrel it is 0", y.nerved(2), 1);
         y.die(2);
         is(36, "of the living", y.nerved(0), 18);
@@ -955,5 +996,61 @@ public final class PromisesTest {
         }
         x.town(0);
         Check.is(42, "gone with another town", x.restore(), false);
+        restoreActs();
+        restoreSights();
+    }
+
+    private static void restoreActs() {
+        WivesQuarrels x = of(COUPLE);
+        x.weeks(2);
+        x.weeks(3);
+        x.image();
+        x.undo();
+        x.undo();
+        x.pick(0, 4, 9, 9);
+        x.die(0);
+        x.restore();
+        is(42, "undo", x.undo(), 1);
+        is(42, "the week", x.count(2), 2);
+        is(42, "no other act", x.count(1) * 10 + x.count(3), 314);
+        WivesQuarrels y = of(COUPLE);
+        for (int i = 0; i < 47; i++) {
+            y.weeks(1);
+        }
+        y.image();
+        for (int i = 0; i < 5; i++) {
+            y.weeks(2);
+        }
+        y.restore();
+        for (int i = 39; i >= 0; i--) {
+            is(42, "undo of the image", y.undo(), i);
+            is(42, "the week", y.count(2), i + 7);
+        }
+        y.restore();
+        is(42, "the week", y.count(2), 47);
+        is(42, "acts", y.count(8), 40);
+    }
+
+    private static void restoreSights() {
+        WivesQuarrels x = of(THREE + "quarrel 0 1 10 0;quarrel 1 2 20 0;");
+        x.see(0, 1, 2, 8);
+        x.image();
+        x.forget();
+        is(42, "seen anew", x.see(1, 2, 3, 50), 1);
+        is(42, "that isn't so", x.nerved(2), 0);
+        x.restore();
+        is(42, "that is so", x.nerved(2), 1);
+        x.forget();
+        x.see(0, 1, 2, 50);
+        x.restore();
+        is(42, "its heat", x.nerved(2), 1);
+        x.forget();
+        x.see(0, 1, 3, 8);
+        x.restore();
+        is(42, "its weeks", x.nerved(2), 1);
+        x.forget();
+        x.see(1, 2, 2, 8);
+        x.restore();
+        is(42, "its people", x.nerved(2), 1);
     }
 }
