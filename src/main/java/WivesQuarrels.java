@@ -1751,10 +1751,12 @@ public final class WivesQuarrels {
             suppose(books.folk(), guess);
             int last = books.lastSeenWeek();
             for (int week = 0; week <= last; week++) {
+                if (week > 0) {
+                    rules.letPass(trial, 1);
+                }
                 if (!books.fits(trial, week)) {
                     return false;
                 }
-                rules.letPass(trial, 1);
             }
             return true;
         }
