@@ -76,7 +76,8 @@ public final class EdgesTest {
     }
 
     /** Another what, on both sides, throws NoSuchElementException, and all stays. */
-    private static void noSuchWhat(Supplier<WivesQuarrels> made, int last, BiFunction<WivesQuarrels, Integer, Integer> call) {
+    private static void noSuchWhat(Supplier<WivesQuarrels> made, int last,
+            BiFunction<WivesQuarrels, Integer, Integer> call) {
         WivesQuarrels x = made.get();
         int[] before = Edge.state(x);
         Edge.missing(() -> call.apply(x, -1), () -> call.apply(x, last + 1), () -> call.apply(x, LEAST),
@@ -124,6 +125,13 @@ public final class EdgesTest {
             x.forget();
             is("town of no bytes", x.town(0), 0);
             is("weeks of nobody", x.weeks(20), 20);
+            WivesQuarrels y = new WivesQuarrels();
+            is("the first act", y.weeks(1), 1);
+            is("the next act", y.weeks(20), 21);
+            is("undo", y.undo(), 1);
+            is("the week", y.count(2), 1);
+            is("undo", y.undo(), 0);
+            is("the week", y.count(2), 0);
         });
     }
 
@@ -196,6 +204,14 @@ public final class EdgesTest {
             Check.feed(x, "person 7 1234567890;");
             is("a number that is cut", x.town(11), 1);
             is("it ends too soon", x.fault(), 11);
+            Check.feed(x, "persons 1 1;");
+            is("a word that is cut", x.town(6), 1);
+            is("it ends too soon", x.fault(), 6);
+            Check.feed(x, "x".repeat(20));
+            x.town(20);
+            Check.feed(x, "person");
+            is("nothing of an earlier tape", x.town(6), 1);
+            is("it ends too soon", x.fault(), 6);
         });
         Edge.promise(3, "(it is empty then)", () -> {
             WivesQuarrels x = new WivesQuarrels();
@@ -230,6 +246,12 @@ public final class EdgesTest {
             is("without the old CUTS", x.quarrel(0, 2, 4), 1);
             is("an empty one", x.town(0), 0);
             is("nobody", x.count(0) + x.count(1) + x.count(3), 0);
+            // Rules as long as can be, again and again.
+            for (int i = 1; i <= 4; i++) {
+                String rule = "heats " + i + "+0*1".repeat(160) + ";";
+                is("a long text", Check.town(x, TWO + "quarrel 0 1 50 0;" + rule), 0);
+                is("by its rule", x.then(0, 1, 1, 0), 50 + i);
+            }
         });
         Edge.promise(3, "or the FAULT (all stays, but STATUS).", () -> {
             WivesQuarrels x = of(THREE + "wed 0 1;quarrel 1 2 30 9;heats 1;cuts heat<32;");
@@ -279,7 +301,8 @@ public final class EdgesTest {
             Edge.illegal(() -> x.town(1));
             Check.feed(x, "person 1 1;");
             int[] before = Edge.state(x);
-            Edge.illegal(() -> x.town(21), () -> x.town(701), () -> x.town(MOST), () -> x.town(-1), () -> x.town(LEAST));
+            Edge.illegal(() -> x.town(21), () -> x.town(701), () -> x.town(MOST), () -> x.town(-1),
+                () -> x.town(LEAST));
             Edge.same("a wrong n", x, before);
             is("the image stays", x.restore(), true);
             is("all that the tape has", x.town(20), 0);
@@ -363,7 +386,8 @@ public final class EdgesTest {
             counted(Edge.allAgainstAll("1", "9"), 5, 512);
             StringBuilder b = new StringBuilder("person 0 0;".repeat(8));
             for (int word = 0; word <= 9; word++) {
-                b.append("quarrel ").append(word < 5 ? 0 : 1).append(' ').append(3 + word % 5).append(" 1 ").append(word).append(';');
+                b.append("quarrel ").append(word / 5).append(' ').append(3 + word % 5).append(" 1 ").append(word);
+                b.append(';');
             }
             counted(b.toString(), 5, 1023);
         });
@@ -479,11 +503,13 @@ public final class EdgesTest {
             is("dead", x.person(7, 3), 0);
         });
         Edge.promise(6, "4 whether a lawyer (1)", () -> {
-            WivesQuarrels x = of("person 1 1;".repeat(7) + "lawyer 1 1;");
-            is("none", x.person(0, 4), 0);
-            is("one", x.person(7, 4), 1);
+            WivesQuarrels x = of("person 1 1;lawyer 1 1;".repeat(4));
+            for (int p = 0; p < 8; p++) {
+                is("each other one", x.person(p, 4), p % 2);
+            }
             x.die(7);
             is("a dead one, too", x.person(7, 4), 1);
+            is("all", of("lawyer 1 1;".repeat(8)).person(0, 4), 1);
         });
         Edge.promise(6, "5 with whom one has QUARRELS (bits)", () -> {
             WivesQuarrels x = of(Edge.allAgainstAll("1", "1"));
@@ -649,7 +675,8 @@ public final class EdgesTest {
         });
         Edge.promise(10, "False (STATUS 1): both are one, one is dead, WED.", () -> {
             Function<WivesQuarrels, Function<int[], Integer>> wed = x -> two -> x.wed(two[0], two[1]) ? 1 : NONE;
-            int[][] wrong = {{3, 3}, {3, 0}, {0, 3}, {1, 2}, {2, 1}, {1, 3}, {3, 1}, {2, 3}, {3, 2}, {0, 0}, {1, 1}, {0, 1}};
+            int[][] wrong = {{3, 3}, {0, 0}, {1, 1}, {3, 0}, {0, 3}, {0, 1},
+                {1, 2}, {2, 1}, {1, 3}, {3, 1}, {2, 3}, {3, 2}};
             for (int[] two : wrong) {
                 Edge.refused(1, () -> dead(FOUR + "wed 1 2;quarrel 1 2 9 9;", 0), "wed(" + two[0] + ", " + two[1] + ")",
                     x -> wed.apply(x).apply(two));
@@ -668,7 +695,8 @@ public final class EdgesTest {
             is("quarrels", x.count(3), 0);
         });
         Edge.promise(11, "NONE (STATUS 1): there is no QUARREL, it can't be.", () -> {
-            String text = "person 1 0;person 1 1;lawyer 1 2;person 1 4;quarrel 0 1 9 2;quarrel 0 2 9 1;quarrel 1 3 9 9;";
+            String text = "person 1 0;person 1 1;lawyer 1 2;person 1 4;"
+                + "quarrel 0 1 9 2;quarrel 0 2 9 1;quarrel 1 3 9 9;";
             Edge.refused(1, () -> of(text), "no quarrel", x -> x.settle(1, 2));
             Edge.refused(1, () -> of(text), "with oneself", x -> x.settle(1, 1));
             Edge.refused(1, () -> of(text), "a third's word", x -> x.settle(0, 1));
@@ -1238,7 +1266,8 @@ public final class EdgesTest {
     }
 
     private static void look() {
-        Edge.promise(37, "LOOK NEXT: 10 by the lesser, and the other one (what 0; NONE), how many (1; 0: none).", () -> {
+        Edge.promise(37, "LOOK NEXT: 10 by the lesser, and the other one (what 0; NONE), how many (1; 0: none).",
+            () -> {
             WivesQuarrels first = of(EIGHT + "quarrel 1 0 50 0;");
             is("the first pair", first.look(0), 1);
             is("how many", first.look(1), 2);
@@ -1352,6 +1381,15 @@ public final class EdgesTest {
         });
     }
 
+    /** Acts that are all seen in the answers: each leaves another heat and another week. */
+    private static void sixtyActs(WivesQuarrels x, int weeks) {
+        for (int i = 0; i < 20; i++) {
+            x.pick(0, 1, 99 - i, i % 10);
+            x.weeks(weeks);
+            x.settle(0, 1);
+        }
+    }
+
     private static void restore() {
         Edge.promise(42, "It is as the IMAGE again: true.", () -> {
             WivesQuarrels x = of("person 5 1;person 4 2;person 3 4;wed 0 1;quarrel 1 2 30 2;");
@@ -1378,6 +1416,22 @@ public final class EdgesTest {
             is("undone all", x.count(2), 0);
             is("and again", x.restore(), true);
             Edge.same("and again", x, kept);
+            WivesQuarrels acts = of("person 5 1023;person 4 2;");
+            sixtyActs(acts, 1);
+            int[][] states = new int[4][];
+            acts.image();
+            for (int i = 0; i < 40; i++) {
+                states[i / 10] = i % 10 == 0 ? Edge.state(acts) : states[i / 10];
+                acts.undo();
+            }
+            sixtyActs(acts, 2);
+            is("restore", acts.restore(), true);
+            for (int i = 0; i < 40; i++) {
+                if (i % 10 == 0) {
+                    Edge.same("undone " + i, acts, states[i / 10]);
+                }
+                is("left", acts.undo(), 39 - i);
+            }
         });
         Edge.promise(42, "False: there is none.", () -> {
             WivesQuarrels x = of(TWO);

@@ -109,6 +109,12 @@ public final class TermsEdgesTest {
             is("to the last byte", x.count(3), 1);
             Edge.text(most.substring(0, 699) + " ", 1, 700);
             Edge.text(most.substring(0, 699) + "5", 2, 698);
+            for (String word : new String[] {"person", "lawyer", "wed", "quarrel", "heats", "cuts"}) {
+                for (int cut = 1; cut <= word.length(); cut++) {
+                    boolean whole = cut == word.length();
+                    Edge.text(" ".repeat(700 - cut) + word.substring(0, cut), 1, whole ? 700 : 700 - cut);
+                }
+            }
             is("no more can be fed", fed(35), 700);
             is("no more can be fed", fed(36), NONE);
         });
@@ -137,6 +143,8 @@ public final class TermsEdgesTest {
             Edge.text("personS 1 1;", 1, 6);
             Edge.text("heats heatz;", 3, 6);
             Edge.text("heats az;", 3, 6);
+            Edge.text("heats za;", 3, 6);
+            Edge.text("heats z;", 3, 6);
             Edge.text("heats " + "a".repeat(694), 3, 6);
         });
         Edge.term(3, "NUMBERS (1 to 4 digits)", () -> {
@@ -153,7 +161,8 @@ public final class TermsEdgesTest {
         Edge.term(3, "signs ; ( ) + - * / < =", () -> {
             Edge.good("heats (1+2-3*4/5<6);cuts 1=2;");
             for (int sign = 0; sign < 256; sign++) {
-                boolean known = " \n;()+-*/<=".indexOf(sign) >= 0 || sign >= '0' && sign <= '9' || sign >= 'a' && sign <= 'z';
+                boolean known = " \n;()+-*/<=".indexOf(sign) >= 0 || sign >= '0' && sign <= '9'
+                    || sign >= 'a' && sign <= 'z';
                 if (!known) {
                     Edge.text("heats 1" + (char) sign + "1;", 1, 7);
                     Edge.text((char) sign + "heats 1;", 1, 0);
@@ -184,8 +193,8 @@ public final class TermsEdgesTest {
             Edge.text(";", 1, 0);
             Edge.text("person 1 1;;", 1, 11);
         });
-        Edge.term(3, "LINE: (('person' | 'lawyer') NERVE DRAWER | 'wed' PERSON PERSON | 'quarrel' PERSON PERSON HEAT WORD"
-            + " | ('heats' | 'cuts') EXPR) ';', all in capitals but EXPR being NUMBERS.", () -> {
+        Edge.term(3, "LINE: (('person' | 'lawyer') NERVE DRAWER | 'wed' PERSON PERSON | 'quarrel' PERSON PERSON"
+            + " HEAT WORD | ('heats' | 'cuts') EXPR) ';', all in capitals but EXPR being NUMBERS.", () -> {
             String[] lines = {"person 1 1", "lawyer 1 1", "wed 0 1", "quarrel 0 1 9 9", "heats 1", "cuts 1"};
             for (String line : lines) {
                 String text = TWO + line;
@@ -331,8 +340,9 @@ public final class TermsEdgesTest {
             worth(told(MOST) + "*2", -2);
             worth("9999*9999*9999", 9999 * 9999 * 9999);
             worth("not " + told(MOST) + "<" + told(MOST) + "+1", 1);
-            is("one that wraps below 0 cools", of(TWO + "quarrel 0 1 50 0;heats " + told(MOST) + "+1;").then(0, 1, 1, 0), 41);
-            is("one that wraps above 0 heats", of(TWO + "quarrel 0 1 50 0;heats " + told(LEAST) + "-1;").then(0, 1, 1, 0), 59);
+            String heats = TWO + "quarrel 0 1 50 0;heats ";
+            is("one that wraps below 0 cools", of(heats + told(MOST) + "+1;").then(0, 1, 1, 0), 41);
+            is("one that wraps above 0 heats", of(heats + told(LEAST) + "-1;").then(0, 1, 1, 0), 59);
         });
         Edge.term(8, "/ cut down to 0, by 0 gives 0", () -> {
             worth("7/2", 3);
@@ -432,6 +442,19 @@ public final class TermsEdgesTest {
             Edge.text("person 1 1024;#", 2, 9);
             Edge.text("#person 10 1024;", 1, 0);
             Edge.text("  \n persons 1 1;", 1, 4);
+            Edge.text("person;#", 1, 6);
+            Edge.text("person 1;#", 1, 8);
+            Edge.text(TWO + "wed 0;#", 1, 27);
+            Edge.text(TWO + "quarrel 0;#", 1, 31);
+            Edge.text(TWO + "quarrel 0 1;#", 1, 33);
+            Edge.text(TWO + "quarrel 0 1 9;#", 1, 35);
+            Edge.text("heats;#", 1, 5);
+            Edge.text("heats (1;#", 1, 8);
+            Edge.text("heats 12345;#", 2, 6);
+            Edge.text("person 10 1;#", 2, 7);
+            Edge.text("person 1 1;wed 0 1;#", 3, 17);
+            Edge.text(TWO + "wed 0 0;#", 4, 28);
+            Edge.text(TWO + "quarrel 0 1 1 1;quarrel 0 1 1 1;#", 4, 48);
             Edge.text("person   12345 1;", 2, 9);
             Edge.text("heats 1;heats x;", 5, 8);
             Edge.text("heats x;heats 1;", 3, 6);
@@ -554,7 +577,8 @@ public final class TermsEdgesTest {
             Edge.good(EIGHT + "wed 7 6;");
             Edge.good("person 1 1;person 1 1;wed 0 1;person 1 1;quarrel 2 0 1 1;");
         });
-        Edge.term(4, "4 the second PERSON of a line who is the first one, has a QUARREL with that one (at 'quarrel')", () -> {
+        Edge.term(4, "4 the second PERSON of a line who is the first one, has a QUARREL with that one (at"
+            + " 'quarrel')", () -> {
             Edge.text(TWO + "wed 0 0;", 4, 28);
             Edge.text(TWO + "quarrel 1 1 9 9;", 4, 32);
             Edge.text(TWO + "quarrel 1 01 9 9;", 4, 32);
@@ -590,7 +614,8 @@ public final class TermsEdgesTest {
     }
 
     private static void aWeek() {
-        Edge.term(8, "QUARRELS are in a row by their PEOPLE (by the lesser, then the other one). A WEEK: QUARREL by QUARREL", () -> {
+        Edge.term(8, "QUARRELS are in a row by their PEOPLE (by the lesser, then the other one). A WEEK:"
+            + " QUARREL by QUARREL", () -> {
             WivesQuarrels x = of(Edge.allAgainstAll("1", "0") + "heats 9-many;");
             x.weeks(1);
             // Who has how many left, as the row goes on: 9 less 'many' ends a QUARREL of HEAT 1, if it is below 0.
@@ -642,7 +667,8 @@ public final class TermsEdgesTest {
     }
 
     private static void aCut() {
-        Edge.term(8, "else, if CUTS gives more than 0 (without it: if HEAT is 20 or more), they CUT each other in it", () -> {
+        Edge.term(8, "else, if CUTS gives more than 0 (without it: if HEAT is 20 or more), they CUT each other"
+            + " in it", () -> {
             String two = TWO + "quarrel 0 1 50 0;heats 0;";
             is("1", cut(two + "cuts 1;", 1), 1);
             is("0", cut(two + "cuts 0;", 1), 0);
@@ -770,7 +796,8 @@ public final class TermsEdgesTest {
     }
 
     private static void wedAndSettled() {
-        Edge.term(10, "Two WED (by an ACT, or a DRAW): a QUARREL of both is over (in a TEXT two who are WED may have one).", () -> {
+        Edge.term(10, "Two WED (by an ACT, or a DRAW): a QUARREL of both is over (in a TEXT two who are WED may"
+            + " have one).", () -> {
             WivesQuarrels x = of(THREE + "quarrel 0 1 50 5;quarrel 1 2 50 5;quarrel 0 2 50 5;");
             x.wed(1, 0);
             is("it is over", x.quarrel(0, 1, 0), NONE);
@@ -782,8 +809,8 @@ public final class TermsEdgesTest {
             is("by a draw", y.years(seed(8, 2, 2, 0, 2, 1), 1, 2), 0);
             is("by a draw", y.years(seed(8, 2, 2, 1, 2, 0), 1, 2), 0);
         });
-        Edge.term(11, "A QUARREL is SETTLED by its WORD, if that is in the DRAWER of one of both, or of a lawyer who lives,"
-            + " and is over.", () -> {
+        Edge.term(11, "A QUARREL is SETTLED by its WORD, if that is in the DRAWER of one of both, or of a"
+            + " lawyer who lives, and is over.", () -> {
             for (int word : new int[] {0, 9}) {
                 int bit = 1 << word;
                 is("the lesser's", settled(bit, 0, "person", 0, word), word);
@@ -887,7 +914,8 @@ public final class TermsEdgesTest {
             is("acts", x.count(8), 1);
             is("refused", x.count(12), 1);
         });
-        Edge.term(12, "a QUARREL is PICKED by two who live, and have none, and aren't WED to each other (HEAT, WORD).", () -> {
+        Edge.term(12, "a QUARREL is PICKED by two who live, and have none, and aren't WED to each other (HEAT,"
+            + " WORD).", () -> {
             WivesQuarrels x = dead("person 1 1;".repeat(6) + "wed 0 1;wed 3 4;quarrel 0 3 9 9;", 2);
             is("one is dead", x.pick(2, 0, 9, 9), NONE);
             is("one is dead", x.pick(0, 2, 9, 9), NONE);
@@ -954,8 +982,8 @@ public final class TermsEdgesTest {
             is("behind 59", x.later(59, 1), 1);
             is("behind 60", x.later(60, 1), 0);
         });
-        Edge.term(17, "BITTER: who has most HEAT in all QUARRELS together behind so many WEEKS (0 to 60; of like ones the least);"
-            + " none lives.", () -> {
+        Edge.term(17, "BITTER: who has most HEAT in all QUARRELS together behind so many WEEKS (0 to 60; of"
+            + " like ones the least); none lives.", () -> {
             is("of like ones", of(Edge.allAgainstAll("99", "0")).later(60, 2), 0);
             is("of like ones", of(FOUR + "quarrel 2 3 9 0;").later(0, 2), 2);
             is("all together", of(FOUR + "quarrel 0 1 9 0;quarrel 1 2 9 0;quarrel 3 2 8 0;").later(0, 2), 1);
@@ -968,8 +996,8 @@ public final class TermsEdgesTest {
     }
 
     private static void heirs() {
-        Edge.term(18, "COMES INTO of one who lives: how many QUARRELS, and how much HEAT, all together, the HEIR would have,"
-            + " DIED one now (without HEIR 0).", () -> {
+        Edge.term(18, "COMES INTO of one who lives: how many QUARRELS, and how much HEAT, all together, the"
+            + " HEIR would have, DIED one now (without HEIR 0).", () -> {
             WivesQuarrels x = of(FOUR + "wed 0 1;quarrel 0 2 99 1;quarrel 1 2 99 2;quarrel 1 3 1 1;quarrel 0 1 50 1;");
             int[] before = Edge.state(x);
             is("how many", x.comesInto(0, 0), 2);
@@ -985,9 +1013,9 @@ public final class TermsEdgesTest {
     }
 
     private static void campsAndTables() {
-        Edge.term(19, "CAMPS: whether those who live can be parted in two, so that each QUARREL is between both; the one part"
-            + " (bits): of all who are held together by QUARRELS, one by the next, the least number is in it (so are those who"
-            + " have none); none, if they can't.", () -> {
+        Edge.term(19, "CAMPS: whether those who live can be parted in two, so that each QUARREL is between"
+            + " both; the one part (bits): of all who are held together by QUARRELS, one by the next, the least"
+            + " number is in it (so are those who have none); none, if they can't.", () -> {
             is("nobody", of("").camps(), 0);
             is("those who have none", of(FOUR).camps(), 15);
             is("the least of each", of(EIGHT + "quarrel 7 6 1 1;quarrel 5 2 1 1;quarrel 4 3 1 1;").camps(), 79);
@@ -995,7 +1023,8 @@ public final class TermsEdgesTest {
                 + "quarrel 2 5 1 1;quarrel 5 3 1 1;quarrel 3 4 1 1;").camps(), 15);
             is("the least is last told", of(THREE + "quarrel 2 1 1 1;quarrel 2 0 1 1;").camps(), 3);
             is("a three", of(FOUR + "quarrel 1 2 1 1;quarrel 2 3 1 1;quarrel 1 3 1 1;").camps(), NONE);
-            is("a three without one who died", dead(FOUR + "quarrel 1 2 1 1;quarrel 2 3 1 1;quarrel 1 3 1 1;", 1).camps(), 5);
+            String three = FOUR + "quarrel 1 2 1 1;quarrel 2 3 1 1;quarrel 1 3 1 1;";
+            is("a three without one who died", dead(three, 1).camps(), 5);
             is("none lives", dead(TWO, 0, 1).camps(), 0);
         });
         Edge.term(5, "ASKED: the most who live of whom no two have a QUARREL: of like ones the least as bits.", () -> {
@@ -1017,8 +1046,8 @@ public final class TermsEdgesTest {
             is("two camps", of(EIGHT + crown()).count(6), 2);
             is("none lives", dead(TWO, 0, 1).count(6), 0);
         });
-        Edge.term(20, "A GO-BETWEEN from one to another one: the fewest steps, each from one who lives to another one without a"
-            + " QUARREL of both (both live, too); none.", () -> {
+        Edge.term(20, "A GO-BETWEEN from one to another one: the fewest steps, each from one who lives to"
+            + " another one without a QUARREL of both (both live, too); none.", () -> {
             WivesQuarrels x = of(FOUR + "quarrel 0 2 1 1;quarrel 0 3 1 1;quarrel 1 3 1 1;");
             is("one step", x.between(0, 1), 1);
             is("two steps", x.between(0, 2), 2);
@@ -1054,8 +1083,8 @@ public final class TermsEdgesTest {
             x.weeks(1);
             is("one is over", x.count(5), 512);
         });
-        Edge.term(21, "DRAWERS: the fewest PEOPLE who live in whose DRAWERS all these are, all together: of as few the least as bits;"
-            + " none.", () -> {
+        Edge.term(21, "DRAWERS: the fewest PEOPLE who live in whose DRAWERS all these are, all together: of as"
+            + " few the least as bits; none.", () -> {
             is("none is needed", of(TWO).drawers(), 0);
             is("nobody", of("").drawers(), 0);
             String two = "quarrel 0 1 9 0;quarrel 0 2 9 9;";
@@ -1066,8 +1095,8 @@ public final class TermsEdgesTest {
             is("who live", dead("person 1 0;person 1 1;person 1 512;person 1 513;" + two, 3).drawers(), 6);
             is("none who lives", dead("person 1 0;person 1 0;person 1 0;person 1 513;" + two, 3).drawers(), NONE);
         });
-        Edge.term(22, "DEATHS: by the fewest who would DIE now, one behind the other by number, there is no QUARREL: of as few the"
-            + " least as bits.", () -> {
+        Edge.term(22, "DEATHS: by the fewest who would DIE now, one behind the other by number, there is no"
+            + " QUARREL: of as few the least as bits.", () -> {
             is("none", of(TWO).deaths(), 0);
             is("the least", of(FOUR + "quarrel 2 3 1 1;").deaths(), 4);
             is("the fewest ahead of the least", of(THREE + "quarrel 0 2 1 1;quarrel 1 2 1 1;").deaths(), 4);
@@ -1082,10 +1111,11 @@ public final class TermsEdgesTest {
     }
 
     private static void friendsAndMatches() {
-        Edge.term(23, "FRIENDS of one: others who live, with whom one has no QUARREL, and who have one with somebody with whom one has"
-            + " one (bits).", () -> {
+        Edge.term(23, "FRIENDS of one: others who live, with whom one has no QUARREL, and who have one with"
+            + " somebody with whom one has one (bits).", () -> {
             is("none", of(FOUR).friends(0), 0);
-            WivesQuarrels x = of(EIGHT + "quarrel 0 1 1 1;quarrel 1 2 1 1;quarrel 2 3 1 1;quarrel 1 7 1 1;quarrel 0 7 1 1;");
+            WivesQuarrels x = of(EIGHT + "quarrel 0 1 1 1;quarrel 1 2 1 1;quarrel 2 3 1 1;"
+                + "quarrel 1 7 1 1;quarrel 0 7 1 1;");
             is("not oneself, nor a foe", x.friends(0), 4);
             is("of the foe", x.friends(1), 8);
             is("of the next", x.friends(2), 129);
@@ -1107,8 +1137,8 @@ public final class TermsEdgesTest {
             is("the heir has all of them", of(THREE + "wed 0 1;quarrel 0 2 9 9;").spared(0), 0);
             is("the dead", dead(TWO, 1).spared(1), NONE);
         });
-        Edge.term(25, "A MATCH for one who lives and isn't WED: the other such one whose QUARRELS (but one of both) have least HEAT"
-            + " together (of like ones the least); none.", () -> {
+        Edge.term(25, "A MATCH for one who lives and isn't WED: the other such one whose QUARRELS (but one of"
+            + " both) have least HEAT together (of like ones the least); none.", () -> {
             is("like ones", of(FOUR).match(3), 0);
             is("not oneself", of(FOUR).match(0), 1);
             is("but one of both", of(FOUR + "quarrel 0 1 99 1;quarrel 2 3 1 1;").match(0), 1);
@@ -1137,8 +1167,8 @@ public final class TermsEdgesTest {
             is("none", of("").mildest(), NONE);
             is("none lives", dead(TWO, 0, 1).mildest(), NONE);
         });
-        Edge.term(28, "COLDEST behind so many WEEKS (0 to 60), if only these go by: who lives with most 'cut' in all QUARRELS that there"
-            + " are then, together (of like ones the least); none.", () -> {
+        Edge.term(28, "COLDEST behind so many WEEKS (0 to 60), if only these go by: who lives with most 'cut'"
+            + " in all QUARRELS that there are then, together (of like ones the least); none.", () -> {
             WivesQuarrels x = of(FOUR + "quarrel 1 2 60 0;quarrel 1 3 30 0;heats 0-1;cuts 1;");
             is("now", x.coldest(0), 0);
             is("behind 1: together", x.coldest(1), 1);
@@ -1148,6 +1178,8 @@ public final class TermsEdgesTest {
             WivesQuarrels y = of(FOUR + "quarrel 0 1 5 0;quarrel 2 3 50 0;cuts 1;");
             is("like ones", y.coldest(4), 0);
             is("those that there are then", y.coldest(5), 2);
+            is("with each other one", of(FOUR + "quarrel 0 3 50 0;quarrel 2 3 50 0;cuts 1;").coldest(1), 3);
+            is("with each other one", of(EIGHT + "quarrel 2 7 50 0;quarrel 0 2 50 0;cuts 1;").coldest(1), 2);
             is("who lives", dead(FOUR, 0).coldest(0), 1);
             is("none", of("").coldest(60), NONE);
         });
@@ -1157,7 +1189,8 @@ public final class TermsEdgesTest {
             is("all", of(Edge.allAgainstAll("1", "1")).triples(), 56);
             is("two camps", of(EIGHT + crown()).triples(), 0);
         });
-        Edge.term(30, "ALONE: who lives, and has a QUARREL with everybody else who lives (bits; one who lives alone, too).", () -> {
+        Edge.term(30, "ALONE: who lives, and has a QUARREL with everybody else who lives (bits; one who lives"
+            + " alone, too).", () -> {
             is("nobody", of("").alone(), 0);
             is("one alone", of("person 1 1;").alone(), 1);
             is("none", of(TWO).alone(), 0);
@@ -1172,7 +1205,8 @@ public final class TermsEdgesTest {
     // ---- what is seen
 
     private static void seen() {
-        Edge.term(35, "SEEN (at most 8): HEAT (0 to 99; 0: over) of a QUARREL of two behind so many WEEKS (0 to 20).", () -> {
+        Edge.term(35, "SEEN (at most 8): HEAT (0 to 99; 0: over) of a QUARREL of two behind so many WEEKS (0 to"
+            + " 20).", () -> {
             WivesQuarrels x = of(TWO + "quarrel 0 1 20 0;");
             is("over behind 20", x.see(0, 1, 20, 0), 1);
             is("it is so", x.nerved(2), 1);
@@ -1193,8 +1227,9 @@ public final class TermsEdgesTest {
             y.see(0, 2, 20, 1);
             is("and isn't 1", y.nerved(2), 0);
         });
-        Edge.term(36, "NERVED: PEOPLE who live and NERVES (0 to 9, another one than one has) by one of which from now on all SEEN would"
-            + " be so: how many; the first (10 by who, and the NERVE); whether it is so without (1).", () -> {
+        Edge.term(36, "NERVED: PEOPLE who live and NERVES (0 to 9, another one than one has) by one of which"
+            + " from now on all SEEN would be so: how many; the first (10 by who, and the NERVE); whether it is"
+            + " so without (1).", () -> {
             String rule = "quarrel 0 1 50 0;heats nerve-9;";
             for (int nerve = 0; nerve <= 9; nerve++) {
                 WivesQuarrels x = of("person 9 0;person 0 0;" + rule);
@@ -1209,6 +1244,21 @@ public final class TermsEdgesTest {
                 x.see(0, 1, 1, 50 + nerve);
                 is("how many", x.nerved(0), 1);
                 is("the first", x.nerved(1), 10 + nerve);
+            }
+            for (int who = 0; who < 8; who++) {
+                for (int nerve = 0; nerve <= 9; nerve++) {
+                    int one = (who + 1) % 8;
+                    int other = (who + 2) % 8;
+                    WivesQuarrels x = of("person 5 0;".repeat(8) + "quarrel " + who + " " + one + " 50 0;quarrel "
+                        + who + " " + other + " 50 0;heats nerve-10;");
+                    x.see(who, one, 1, 45 + nerve);
+                    x.see(other, who, 1, 45 + nerve);
+                    // With 5 it is so without, and by each other NERVE of the five who are in neither.
+                    is("how many", x.nerved(0), nerve == 5 ? 45 : 1);
+                    if (nerve != 5) {
+                        is("who, and the nerve", x.nerved(1), 10 * who + nerve);
+                    }
+                }
             }
             WivesQuarrels all = of("person 9 0;".repeat(8));
             is("none seen", all.nerved(0), 72);
@@ -1227,8 +1277,8 @@ public final class TermsEdgesTest {
     }
 
     private static void lookNext() {
-        Edge.term(37, "LOOK NEXT: the QUARREL of now (of like ones the first) of which HEAT behind 5 WEEKS by these would be most unlike:"
-            + " which; how many unlike ones; none without any.", () -> {
+        Edge.term(37, "LOOK NEXT: the QUARREL of now (of like ones the first) of which HEAT behind 5 WEEKS by"
+            + " these would be most unlike: which; how many unlike ones; none without any.", () -> {
             WivesQuarrels like = of(Edge.allAgainstAll("50", "0"));
             is("like ones", like.look(0), 1);
             is("two", like.look(1), 2);
@@ -1240,6 +1290,11 @@ public final class TermsEdgesTest {
             is("98 and 99", of("person 0 0;person 0 0;quarrel 0 1 93 0;heats nerve;").look(1), 2);
             is("63, 64, 65", of("person 0 0;person 0 0;quarrel 0 1 64 0;"
                 + "heats (week=0)*((nerve=1)-(nerve=2));").look(1), 3);
+            is("18 and 82", of("person 0 0;person 0 0;quarrel 0 1 50 0;"
+                + "heats (9-4*(week=3)-9*(week=4))*((nerve=1)-(nerve=2));").look(1), 3);
+            is("by the first one's first", of("person 1 0;person 0 0;quarrel 0 1 50 0;heats nerve=0;").look(1), 2);
+            WivesQuarrels last = of("person 0 0;".repeat(6) + "person 1 0;person 0 0;quarrel 6 7 50 0;heats nerve=10;");
+            is("by the last one's last", last.look(1), 2);
             is("no quarrel that isn't there", of(THREE + "quarrel 1 2 50 0;heats nerve;").look(0), 12);
             is("most unlike", of(THREE + "quarrel 0 1 50 0;quarrel 1 2 50 0;heats (nerve<8)*nerve;").look(0), 12);
             like.see(0, 1, 0, 49);
@@ -1287,8 +1342,8 @@ public final class TermsEdgesTest {
             }
             is("all three others", rests(0, 0, 1, 0), 3);
         });
-        Edge.term(39, "A couple RESTS, if neither gains more by the other choice: how many; the first (10 by the first one's, and the"
-            + " other one's); none without a QUARREL.", () -> {
+        Edge.term(39, "A couple RESTS, if neither gains more by the other choice: how many; the first (10 by"
+            + " the first one's, and the other one's); none without a QUARREL.", () -> {
             is("like gains rest", rests(1, 1, 9, 0), 3);
             is("the first of them", rests(1, 1, 9, 1), 0);
             is("more", rests(1, 1, 18, 0), 2);
@@ -1351,9 +1406,10 @@ public final class TermsEdgesTest {
             is("the dead are drawn, too", y.years(seed(8, 0, 3, 1), 1, 0), 5);
             is("just one draw then", y.years(seed(8, 0, 3, 1, 8, 0, 3, 2), 2, 0), 1);
             is("all of eight", of(EIGHT).years(seed(8, 0, 8, 7), 1, 0), 127);
+            is("one of one", of("person 1 1;").years(seed(8, 0), 1, 0), 0);
         });
-        Edge.term(40, "1 a DRAW of PEOPLE, a DRAW of PEOPLE: they PICK a QUARREL, if they can, of a DRAW of 30 and 1 HEAT, and a DRAW of"
-            + " 10 as the WORD (both drawn, whether they can or not)", () -> {
+        Edge.term(40, "1 a DRAW of PEOPLE, a DRAW of PEOPLE: they PICK a QUARREL, if they can, of a DRAW of 30"
+            + " and 1 HEAT, and a DRAW of 10 as the WORD (both drawn, whether they can or not)", () -> {
             WivesQuarrels x = of(TWO + "heats 0;");
             is("least heat", x.years(seed(8, 1, 2, 0, 2, 1, 30, 0, 10, 0), 1, 1), 1);
             is("most heat", x.years(seed(8, 1, 2, 1, 2, 0, 30, 29, 10, 9), 1, 1), 30);
@@ -1377,7 +1433,8 @@ public final class TermsEdgesTest {
             is("without", x.years(seed(8, 2, 3, 1, 3, 1, 8, 0, 3, 0), 2, 1), 0);
             WivesQuarrels wed = of(THREE + "wed 0 2;quarrel 0 1 50 0;heats 0;");
             is("one who is wed can't be", wed.years(seed(8, 2, 3, 0, 3, 1), 1, 1), 50);
-            is("the dead can't be", dead(THREE + "quarrel 1 2 50 0;heats 0;", 0).years(seed(8, 2, 3, 0, 3, 1, 8, 0, 3, 1), 2, 2), 0);
+            WivesQuarrels widower = dead(THREE + "quarrel 1 2 50 0;heats 0;", 0);
+            is("the dead can't be", widower.years(seed(8, 2, 3, 0, 3, 1, 8, 0, 3, 1), 2, 2), 0);
         });
     }
 
@@ -1391,8 +1448,8 @@ public final class TermsEdgesTest {
             WivesQuarrels y = dead("person 1 1;", 0);
             is("none lives", y.years(1, 60, 0) + y.years(1, 60, 1) + y.years(1, 60, 2), 0);
         });
-        Edge.term(40, "A seed becomes itself times 1103515245 and 12345 (an int that wraps); a DRAW of n is its bits 16 to 30 MOD n"
-            + " then.", () -> {
+        Edge.term(40, "A seed becomes itself times 1103515245 and 12345 (an int that wraps); a DRAW of n is its"
+            + " bits 16 to 30 MOD n then.", () -> {
             for (int seed : new int[] {0, 1, -1, 2, MOST, LEAST, 123456789, -987654321}) {
                 WivesQuarrels x = of("person 1 1;".repeat(7));
                 int lives = 127;
@@ -1449,7 +1506,8 @@ public final class TermsEdgesTest {
             Edge.missing(() -> x.die(2), () -> x.see(0, 2, 0, 0), () -> x.pick(2, 0, 1, 1));
             is("no other call", x.count(11) * 100 + x.count(12) * 10 + x.count(13), 251);
         });
-        Edge.term(42, "AN IMAGE keeps all that WEEKS and ACTS change, ACTS that are kept, what is SEEN, STATUS.", () -> {
+        Edge.term(42, "AN IMAGE keeps all that WEEKS and ACTS change, ACTS that are kept, what is SEEN, STATUS.",
+            () -> {
             imageKeeps("weeks", (x, i) -> x.weeks(i));
             imageKeeps("a death", (x, i) -> x.die(0));
             imageKeeps("a wedding", (x, i) -> x.wed(1, 2) ? 1 : 0);
@@ -1463,6 +1521,22 @@ public final class TermsEdgesTest {
             });
             imageKeeps("a refused act", (x, i) -> x.weeks(21));
             imageKeeps("a refused sight", (x, i) -> x.see(0, 0, 1, 1));
+            int[][] others = {{0, 1, 3, 22}, {1, 2, 4, 22}, {1, 2, 3, 21}};
+            for (int[] o : others) {
+                WivesQuarrels x = of(THREE + "quarrel 1 2 25 0;");
+                for (int i = 0; i < 8; i++) {
+                    x.see(1, 2, 3, 22);
+                }
+                x.image();
+                x.forget();
+                for (int i = 0; i < 8; i++) {
+                    x.see(o[0], o[1], o[2], o[3]);
+                }
+                is("another sight isn't so", x.nerved(2), 0);
+                x.restore();
+                is("what was seen is", x.nerved(2), 1);
+                is("seen", x.count(9), 8);
+            }
             WivesQuarrels y = of(TWO);
             y.image();
             Check.town(y, "#");
