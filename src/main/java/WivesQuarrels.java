@@ -1170,7 +1170,8 @@ public final class WivesQuarrels {
         static final int END = 0;
         static final int NO_TOKEN = 1;
         static final int NUMBER = 2;
-        // The words' kinds go by their places in WORDS: first the VALUES, as the rules have them.
+        // The words' kinds go by their places in WORDS (any other word's is behind the last one): first the
+        // VALUES, as the rules have them.
         static final int FIRST_WORD = 200;
         static final int LAST_VALUE = 205;
         static final int OR = 206;
@@ -1182,7 +1183,6 @@ public final class WivesQuarrels {
         static final int QUARREL = 212;
         static final int HEATS = 213;
         static final int CUTS = 214;
-        static final int OTHER_WORD = 215;
         private static final String WORDS =
             "heat nerve unlike many cut week or and not person lawyer wed quarrel heats cuts ";
         private static final String SIGNS = ";()+-*/<=";

@@ -16,8 +16,6 @@ import java.util.regex.Pattern;
  */
 final class Edge {
     static final int NONE = WivesQuarrels.NONE;
-    /** Numbers that are no PERSON in any town. */
-    static final int[] NOBODY = {-1, 8, Integer.MIN_VALUE, Integer.MAX_VALUE};
 
     private static final Path DOCUMENT = Path.of("..", "shared", "DOC.md");
     private static final int TERMS = 0;
